@@ -779,6 +779,9 @@ public final class RouteEngine {
         }
 
         void remove(int g) {
+            if (g < 0 || g >= size) {
+                return;
+            }
             for (int i = g; i < size - 1; i++) {
                 spots[i] = spots[i + 1];
                 keys[i] = keys[i + 1];

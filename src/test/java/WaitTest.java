@@ -22,6 +22,7 @@ public final class WaitTest {
         readyInTheirOrder();
         readyAreCut();
         passHasHundredAttempts();
+        eachCallHasHundredAttempts();
         CHECK.end();
     }
 
@@ -305,5 +306,19 @@ public final class WaitTest {
         // 42 attempts each: the third one is cut, and so is the one that falls due later in the same call.
         CHECK.due("pass", x.pass(10), 4);
         CHECK.counts(x, "8 2 0 4 0 0 0 2 10 0 0 0 0");
+    }
+
+    private static void eachCallHasHundredAttempts() {
+        RouteEngine x = CHECK.engine("&1&2>3>3>3>3kkkkkkkkkkkkkk", "k!1", "a2,9k!2", "kkkkkkkkkkkkkkkkkkkk");
+        CHECK.due("send of 100 attempts", x.send(0, 1, 1), 1);
+        CHECK.due("work", x.work(), 1);
+        CHECK.due("work", x.work(), 3);
+        CHECK.due("send of 100 attempts", x.send(0, 1, 1), 1);
+        CHECK.due("pass", x.pass(9), 1);
+        CHECK.got(x, 1, "1/1");
+        CHECK.got(x, 2, "1/1");
+        CHECK.due("send of 100 attempts", x.send(0, 1, 1), 1);
+        CHECK.due("work", x.work(), 1);
+        CHECK.due("count", x.count(7), 0);
     }
 }
