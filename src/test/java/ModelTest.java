@@ -13,12 +13,15 @@ public final class ModelTest {
     private final int run;
     /** In these runs routes split and run other routes so much that exchanges are cut. */
     private final boolean heavy;
+    /** In these runs routes are mostly steps a and q, so that much waits at once. */
+    private final boolean gathering;
 
     private ModelTest(Check check, int run) {
         this.check = check;
         this.run = run;
         random = new Random(run);
         heavy = run % 5 == 0;
+        gathering = run % 5 == 1;
     }
 
     public static void main(String[] args) {
@@ -162,7 +165,7 @@ public final class ModelTest {
         if (heavy && oneIn(2)) {
             return mayOpen && oneIn(2) ? "s4(" + step(r, depth + 1) + ")" : r < 3 ? ">" + (r + 1) : "!0";
         }
-        switch (below(16)) {
+        switch (gathering && depth == 0 && !oneIn(4) ? 14 + below(2) : below(16)) {
             case 0: return "+" + below(12);
             case 1: return "-" + below(12);
             case 2: return "*" + below(4);
