@@ -22,7 +22,7 @@ public final class ClauseTest {
     }
 
     private static void wrongClauses() {
-        RouteEngine x = CHECK.engine("!0");
+        Engine x = CHECK.engine("!0");
         int[][] wrong = {
             {0, 1, 1}, {8, 1, 1}, {-1, 1, 1}, {Integer.MAX_VALUE, 1, 1}, {1, -1, 1}, {1, 6, 1}, {1, 1, -1}, {1, 1, 21},
             {1, Integer.MIN_VALUE, 1}, {1, 1, Integer.MAX_VALUE},
@@ -40,7 +40,7 @@ public final class ClauseTest {
     }
 
     private static void atMostFour() {
-        RouteEngine x = CHECK.engine("!0");
+        Engine x = CHECK.engine("!0");
         for (int t = 4; t <= 7; t++) {
             CHECK.yes("clause", x.clause(t, 0, 0, false, false));
         }
@@ -58,7 +58,7 @@ public final class ClauseTest {
     }
 
     private static void forget() {
-        RouteEngine x = CHECK.engine("!0");
+        Engine x = CHECK.engine("!0");
         x.forget();
         CHECK.yes("clause", x.clause(1, 5, 1, true, false));
         CHECK.yes("clause", x.clause(2, 5, 1, true, false));
@@ -72,7 +72,7 @@ public final class ClauseTest {
     }
 
     private static void wrongFailures() {
-        RouteEngine x = CHECK.engine("!0!3");
+        Engine x = CHECK.engine("!0!3");
         CHECK.yes("fail", x.fail(0, 1, 2));
         int[][] wrong = {
             {-1, 0, 1}, {4, 0, 1}, {0, -1, 1}, {0, 10, 1}, {0, 0, 0}, {0, 0, 8}, {0, 9, -1},
@@ -89,7 +89,7 @@ public final class ClauseTest {
     }
 
     private static void failures() {
-        RouteEngine x = CHECK.engine("!0", "!1");
+        Engine x = CHECK.engine("!0", "!1");
         CHECK.yes("fail", x.fail(0, 9, 1));
         for (int i = 0; i < 9; i++) {
             CHECK.due("send", x.send(0, 1, 1), 6);
@@ -109,14 +109,14 @@ public final class ClauseTest {
     private static void whichClauseCounts() {
         for (int c = 1; c <= 7; c++) {
             for (int t = 1; t <= 7; t++) {
-                RouteEngine x = CHECK.engine("!0");
+                Engine x = CHECK.engine("!0");
                 CHECK.yes("clause", x.clause(c, 0, 0, true, false));
                 CHECK.yes("fail", x.fail(0, 1, t));
                 boolean counts = c == t || c == t / 2 || c == t / 2 / 2;
                 CHECK.due("send that throws " + t + " with a clause for " + c, x.send(0, 1, 1), counts ? 5 : 6);
             }
         }
-        RouteEngine y = CHECK.engine("!0");
+        Engine y = CHECK.engine("!0");
         CHECK.yes("clause", y.clause(5, 0, 0, true, false));
         CHECK.yes("clause", y.clause(1, 0, 0, false, false));
         CHECK.yes("clause", y.clause(6, 0, 0, true, false));
@@ -128,7 +128,7 @@ public final class ClauseTest {
 
     private static void maximum() {
         for (int maximum = 0; maximum <= 5; maximum++) {
-            RouteEngine x = CHECK.engine("!0");
+            Engine x = CHECK.engine("!0");
             CHECK.yes("clause", x.clause(1, maximum, 0, true, false));
             CHECK.yes("fail", x.fail(0, maximum, 1));
             CHECK.due("send", x.send(0, 1, 1), 1);
@@ -143,7 +143,7 @@ public final class ClauseTest {
     private static void delay() {
         int[] times = {0, 3, 9, 21, 45, 93};
         for (int n = 0; n <= 5; n++) {
-            RouteEngine x = CHECK.engine("!0");
+            Engine x = CHECK.engine("!0");
             CHECK.yes("clause", x.clause(1, 5, 3, true, false));
             CHECK.yes("fail", x.fail(0, n, 1));
             CHECK.due("send", x.send(0, 1, 1), 1);
@@ -152,14 +152,14 @@ public final class ClauseTest {
     }
 
     private static void growthAtMostSixty() {
-        RouteEngine x = CHECK.engine("!0");
+        Engine x = CHECK.engine("!0");
         CHECK.yes("clause", x.clause(1, 5, 20, true, false));
         CHECK.yes("fail", x.fail(0, 9, 1));
         CHECK.due("send", x.send(0, 1, 1), 5);
         CHECK.due("the time", x.count(8), 20 + 40 + 60 + 60 + 60);
         CHECK.due("send", x.send(0, 1, 1), 1);
         CHECK.due("the time", x.count(8), 240 + 20 + 40 + 60);
-        RouteEngine y = CHECK.engine("!0");
+        Engine y = CHECK.engine("!0");
         CHECK.yes("clause", y.clause(1, 5, 4, true, false));
         CHECK.yes("fail", y.fail(0, 5, 1));
         CHECK.due("send", y.send(0, 1, 1), 1);
@@ -167,7 +167,7 @@ public final class ClauseTest {
     }
 
     private static void deadLetters() {
-        RouteEngine x = CHECK.engine("+5k*2!0");
+        Engine x = CHECK.engine("+5k*2!0");
         CHECK.yes("clause", x.clause(2, 0, 0, true, false));
         CHECK.yes("clause", x.clause(3, 0, 0, true, true));
         CHECK.yes("clause", x.clause(1, 0, 0, false, true));
@@ -182,7 +182,7 @@ public final class ClauseTest {
     }
 
     private static void deadLettersOfParts() {
-        RouteEngine x = CHECK.engine("+1s2(*3!0)!1");
+        Engine x = CHECK.engine("+1s2(*3!0)!1");
         CHECK.yes("clause", x.clause(1, 0, 0, true, true));
         CHECK.yes("fail", x.fail(0, 1, 1));
         CHECK.due("send", x.send(0, 10, 9), 1);
@@ -200,7 +200,7 @@ public final class ClauseTest {
     }
 
     private static void deliveriesFromTheBeginning() {
-        RouteEngine x = CHECK.engine("r");
+        Engine x = CHECK.engine("r");
         CHECK.yes("clause", x.clause(1, 2, 1, true, false));
         CHECK.yes("fail", x.fail(2, 2, 1));
         CHECK.due("send", x.send(0, 3, 7), 1);
@@ -217,12 +217,12 @@ public final class ClauseTest {
     }
 
     private static void attemptsAreCountedAnew() {
-        RouteEngine x = CHECK.engine(">1>1!0", "!0");
+        Engine x = CHECK.engine(">1>1!0", "!0");
         CHECK.yes("clause", x.clause(1, 1, 7, true, false));
         CHECK.yes("fail", x.fail(0, 1, 1));
         CHECK.due("send", x.send(0, 1, 1), 1);
         CHECK.due("the time", x.count(8), 7);
-        RouteEngine y = CHECK.engine("!0!1!2");
+        Engine y = CHECK.engine("!0!1!2");
         CHECK.yes("clause", y.clause(1, 1, 7, true, false));
         for (int d = 0; d < 3; d++) {
             CHECK.yes("fail", y.fail(d, 1, 1));
@@ -230,7 +230,7 @@ public final class ClauseTest {
         CHECK.due("send", y.send(0, 1, 1), 1);
         CHECK.counts(y, "1 1 0 0 0 0 0 0 21 0 0 0 3");
         // A throw of another number is an attempt at the same step all the same.
-        RouteEngine z = CHECK.engine("r");
+        Engine z = CHECK.engine("r");
         CHECK.yes("clause", z.clause(4, 2, 5, true, false));
         CHECK.yes("clause", z.clause(1, 1, 9, true, false));
         CHECK.yes("fail", z.fail(0, 1, 4));
@@ -240,7 +240,7 @@ public final class ClauseTest {
     }
 
     private static void cutRedelivery() {
-        RouteEngine x = CHECK.engine(">3>3>3>3kkkkkkkkkkkkkkk!0", "", "", "kkkkkkkkkkkkkkkkkkkk");
+        Engine x = CHECK.engine(">3>3>3>3kkkkkkkkkkkkkkk!0", "", "", "kkkkkkkkkkkkkkkkkkkk");
         CHECK.yes("clause", x.clause(1, 5, 2, true, false));
         CHECK.due("send of 100 attempts", x.send(0, 1, 1), 1);
         CHECK.yes("fail", x.fail(0, 1, 1));
@@ -252,7 +252,7 @@ public final class ClauseTest {
     }
 
     private static void fullStepThrowsAgain() {
-        RouteEngine x = CHECK.engine("a2,50!0", "&0");
+        Engine x = CHECK.engine("a2,50!0", "&0");
         CHECK.yes("clause", x.clause(5, 2, 4, false, false));
         CHECK.yes("clause", x.clause(6, 1, 1, true, false));
         for (int key = 1; key <= 3; key++) {

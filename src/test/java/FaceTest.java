@@ -47,7 +47,7 @@ public final class FaceTest {
     }
 
     private static void newObject() {
-        RouteEngine x = new RouteEngine();
+        Engine x = new Engine();
         CHECK.counts(x, "0 0 0 0 0 0 0 0 0 0 0 0 0");
         for (int d = 0; d <= 4; d++) {
             CHECK.due("delivered", x.delivered(d), 0);
@@ -65,8 +65,8 @@ public final class FaceTest {
     }
 
     private static void objectsShareNothing() {
-        RouteEngine x = CHECK.engine("!0");
-        RouteEngine y = new RouteEngine();
+        Engine x = CHECK.engine("!0");
+        Engine y = new Engine();
         CHECK.due("send", x.send(0, 1, 2), 1);
         CHECK.due("send", y.send(0, 1, 2), 1);
         CHECK.due("delivered", x.delivered(0), 1);

@@ -2,13 +2,15 @@ import java.util.Random;
 
 /** Many runs of calls, made up from fixed seeds, on RouteEngine and on the model beside it. */
 public final class ModelTest {
-    private static final int RUNS = 4000;
-    private static final int CALLS = 120;
+    private static final int RUNS = 10000;
+    private static final int TEXT_MOST = 45;
+    /** So many calls are kept for the look at everything at the end of a run. */
+    private static final int LAST_LOOK = 160;
     private static final String LETTERS = "+-*kb?fs>&!riaq():,<=%0123456789x";
 
     private final Check check;
     private final Random random;
-    private final RouteEngine x = new RouteEngine();
+    private final Engine x = new Engine();
     private final Model y = new Model();
     private final int run;
     /** In these runs routes split and run other routes so much that exchanges are cut. */
@@ -37,7 +39,7 @@ public final class ModelTest {
             write(r);
         }
         same("read()", x.read(), y.read());
-        for (int i = 0; i < CALLS; i++) {
+        while (x.callsLeft() > LAST_LOOK + TEXT_MOST + 1) {
             call();
         }
         everything();
@@ -86,7 +88,7 @@ public final class ModelTest {
         } else if (which < 93) {
             same("read()", x.read(), y.read());
         } else {
-            everything();
+            look();
         }
     }
 
@@ -99,19 +101,32 @@ public final class ModelTest {
         same("clause", x.clause(t, maximum, delay, handled, original), y.clause(t, maximum, delay, handled, original));
     }
 
+    private void look() {
+        int what = below(15) - 1;
+        int d = below(7) - 1;
+        int k = below(10) - 1;
+        int i = below(Math.max(y.count(10), 1));
+        switch (below(4)) {
+            case 0 -> same("count(" + what + ")", x.count(what), y.count(what));
+            case 1 -> same("group(" + i + ", " + k + ")", x.group(i, k), y.group(i, k));
+            case 2 -> same("body(" + d + ", " + k + ")", x.body(d, k), y.body(d, k));
+            default -> same("delivered(" + d + ")", x.delivered(d), y.delivered(d));
+        }
+    }
+
     private void everything() {
         for (int what = -1; what <= 13; what++) {
             same("count(" + what + ")", x.count(what), y.count(what));
         }
-        for (int d = -1; d <= 5; d++) {
+        for (int d = 0; d <= 4; d++) {
             same("delivered(" + d + ")", x.delivered(d), y.delivered(d));
-            for (int k = -1; k <= 8; k++) {
+            for (int k = 0; k <= 7; k++) {
                 same("body(" + d + ", " + k + ")", x.body(d, k), y.body(d, k));
                 same("key(" + d + ", " + k + ")", x.key(d, k), y.key(d, k));
             }
         }
-        for (int i = -1; i <= y.count(10); i++) {
-            for (int what = -1; what <= 4; what++) {
+        for (int i = 0; i <= y.count(10) && x.callsLeft() >= 4; i++) {
+            for (int what = 0; what <= 3; what++) {
                 same("group(" + i + ", " + what + ")", x.group(i, what), y.group(i, what));
             }
         }
@@ -125,6 +140,7 @@ public final class ModelTest {
         if (oneIn(15)) {
             spoil(text);
         }
+        text.setLength(Math.min(text.length(), TEXT_MOST));
         same("clear(" + r + ")", x.clear(r), y.clear(r));
         for (int i = 0; i < text.length(); i++) {
             same("put(" + r + ", " + text.charAt(i) + ")", x.put(r, text.charAt(i)), y.put(r, text.charAt(i)));

@@ -25,7 +25,7 @@ public final class StepTest {
     }
 
     private static void wrongRoutes() {
-        RouteEngine x = CHECK.engine("!0", "!1", "!2", "!3");
+        Engine x = CHECK.engine("!0", "!1", "!2", "!3");
         for (int r : new int[] {-1, 4, LEAST, MOST}) {
             CHECK.due("send(" + r + ")", x.send(r, 1, 1), -1);
         }
@@ -36,68 +36,61 @@ public final class StepTest {
         }
     }
 
-    /** What the route makes of body and key, as it comes to endpoint 0. */
-    private static void makes(String text, int body, int key, String want) {
-        RouteEngine x = CHECK.engine(text + "!0");
-        CHECK.due("send through " + text, x.send(0, body, key), 1);
-        CHECK.same(text + " of " + body + "/" + key, Check.got(x, 0), want);
-    }
-
     private static void sums() {
-        makes("", 3, 4, "3/4");
-        makes("+5", 3, 4, "8/4");
-        makes("-5", 3, 4, "-2/4");
-        makes("*5", 3, 4, "15/4");
-        makes("+9999", 1, 0, "10000/0");
-        makes("*0", 77, 0, "0/0");
-        makes("+0012-0002*0003", 0, 0, "30/0");
-        makes("+1", MOST, 0, LEAST + "/0");
-        makes("-1", LEAST, 0, MOST + "/0");
-        makes("*2", MOST, 0, "-2/0");
-        makes("*9999", 1000000, 0, (1000000 * 9999) + "/0");
+        CHECK.makes("", 3, 4, "3/4");
+        CHECK.makes("+5", 3, 4, "8/4");
+        CHECK.makes("-5", 3, 4, "-2/4");
+        CHECK.makes("*5", 3, 4, "15/4");
+        CHECK.makes("+9999", 1, 0, "10000/0");
+        CHECK.makes("*0", 77, 0, "0/0");
+        CHECK.makes("+0012-0002*0003", 0, 0, "30/0");
+        CHECK.makes("+1", MOST, 0, LEAST + "/0");
+        CHECK.makes("-1", LEAST, 0, MOST + "/0");
+        CHECK.makes("*2", MOST, 0, "-2/0");
+        CHECK.makes("*9999", 1000000, 0, (1000000 * 9999) + "/0");
     }
 
     private static void bodyAndKey() {
-        makes("k", 3, 4, "3/3");
-        makes("b", 3, 4, "4/4");
-        makes("+1k+1", 3, 4, "5/4");
+        CHECK.makes("k", 3, 4, "3/3");
+        CHECK.makes("b", 3, 4, "4/4");
+        CHECK.makes("+1k+1", 3, 4, "5/4");
     }
 
     private static void tests() {
-        makes("?b<5(+100)", 4, 0, "104/0");
-        makes("?b<5(+100)", 5, 0, "5/0");
-        makes("?b<5(+100)", LEAST, 0, (LEAST + 100) + "/0");
-        makes("?b>5(+100)", 5, 0, "5/0");
-        makes("?b>5(+100)", 6, 0, "106/0");
-        makes("?b=5(+100)", 5, 0, "105/0");
-        makes("?b=5(+100)", 4, 5, "4/5");
-        makes("?b%5(+100)", 10, 0, "110/0");
-        makes("?b%5(+100)", 11, 0, "11/0");
-        makes("?b%5(+100)", -10, 0, "90/0");
-        makes("?b%5(+100)", -11, 0, "-11/0");
-        makes("?b%5(+100)", 0, 1, "100/1");
-        makes("?b%1(+100)", 7, 0, "107/0");
-        makes("?k<5(+100)", 9, 4, "109/4");
-        makes("?k>5(+100)", 0, 6, "100/6");
-        makes("?k=9999(+100)", 0, 9999, "100/9999");
-        makes("?k%4(+100)", 3, 8, "103/8");
-        makes("?k%4(+100)", 8, 3, "8/3");
+        CHECK.makes("?b<5(+100)", 4, 0, "104/0");
+        CHECK.makes("?b<5(+100)", 5, 0, "5/0");
+        CHECK.makes("?b<5(+100)", LEAST, 0, (LEAST + 100) + "/0");
+        CHECK.makes("?b>5(+100)", 5, 0, "5/0");
+        CHECK.makes("?b>5(+100)", 6, 0, "106/0");
+        CHECK.makes("?b=5(+100)", 5, 0, "105/0");
+        CHECK.makes("?b=5(+100)", 4, 5, "4/5");
+        CHECK.makes("?b%5(+100)", 10, 0, "110/0");
+        CHECK.makes("?b%5(+100)", 11, 0, "11/0");
+        CHECK.makes("?b%5(+100)", -10, 0, "90/0");
+        CHECK.makes("?b%5(+100)", -11, 0, "-11/0");
+        CHECK.makes("?b%5(+100)", 0, 1, "100/1");
+        CHECK.makes("?b%1(+100)", 7, 0, "107/0");
+        CHECK.makes("?k<5(+100)", 9, 4, "109/4");
+        CHECK.makes("?k>5(+100)", 0, 6, "100/6");
+        CHECK.makes("?k=9999(+100)", 0, 9999, "100/9999");
+        CHECK.makes("?k%4(+100)", 3, 8, "103/8");
+        CHECK.makes("?k%4(+100)", 8, 3, "8/3");
     }
 
     private static void choices() {
-        makes("?b<5(+1):(+2)+10", 4, 0, "15/0");
-        makes("?b<5(+1):(+2)+10", 5, 0, "17/0");
-        makes("?b<5():(+2)+10", 4, 0, "14/0");
-        makes("?b<5(+1):()+10", 5, 0, "15/0");
-        makes("?b<5(?k<5(+1):(+2)):(?k<5(+3):(+4))", 4, 4, "5/4");
-        makes("?b<5(?k<5(+1):(+2)):(?k<5(+3):(+4))", 4, 5, "6/5");
-        makes("?b<5(?k<5(+1):(+2)):(?k<5(+3):(+4))", 5, 4, "8/4");
-        makes("?b<5(?k<5(+1):(+2)):(?k<5(+3):(+4))", 5, 5, "9/5");
-        makes("?b=1(+1)?b=2(+1)?b=3(+1)", 1, 0, "4/0");
+        CHECK.makes("?b<5(+1):(+2)+10", 4, 0, "15/0");
+        CHECK.makes("?b<5(+1):(+2)+10", 5, 0, "17/0");
+        CHECK.makes("?b<5():(+2)+10", 4, 0, "14/0");
+        CHECK.makes("?b<5(+1):()+10", 5, 0, "15/0");
+        CHECK.makes("?b<5(?k<5(+1):(+2)):(?k<5(+3):(+4))", 4, 4, "5/4");
+        CHECK.makes("?b<5(?k<5(+1):(+2)):(?k<5(+3):(+4))", 4, 5, "6/5");
+        CHECK.makes("?b<5(?k<5(+1):(+2)):(?k<5(+3):(+4))", 5, 4, "8/4");
+        CHECK.makes("?b<5(?k<5(+1):(+2)):(?k<5(+3):(+4))", 5, 5, "9/5");
+        CHECK.makes("?b=1(+1)?b=2(+1)?b=3(+1)", 1, 0, "4/0");
     }
 
     private static void filters() {
-        RouteEngine x = CHECK.engine("fb<5!0fk%3!1", "?b<5(fb<3!0)!1");
+        Engine x = CHECK.engine("fb<5!0fk%3!1", "?b<5(fb<3!0)!1");
         CHECK.due("send", x.send(0, 4, 6), 1);
         CHECK.due("send", x.send(0, 5, 6), 2);
         CHECK.due("send", x.send(0, 4, 7), 2);
@@ -110,7 +103,7 @@ public final class StepTest {
     }
 
     private static void splits() {
-        RouteEngine x = CHECK.engine("s4(!0)!1");
+        Engine x = CHECK.engine("s4(!0)!1");
         CHECK.due("send", x.send(0, 10, 7), 1);
         CHECK.got(x, 0, "2/7 2/7 3/7 3/7");
         CHECK.got(x, 1, "10/7");
@@ -119,15 +112,15 @@ public final class StepTest {
         CHECK.due("send of the most", x.send(0, MOST, 7), 1);
         CHECK.got(x, 0, "-3/7 -3/7 -2/7 -2/7 536870911/7 -536870912/7 -536870912/7 -536870912/7");
         CHECK.counts(x, "15 15 0 0 0 0 0 0 0 0 0 0 0");
-        makes("s1(+3)", 5, 6, "8/6");
-        makes("s2()", 5, 6, "5/6");
-        makes("s3(k)", 10, 6, "10/6");
-        makes("s2(*5)", 5, 6, "25/6");
-        makes("s2(s2(+1))", 4, 0, "8/0");
+        CHECK.makes("s1(+3)", 5, 6, "8/6");
+        CHECK.makes("s2()", 5, 6, "5/6");
+        CHECK.makes("s3(k)", 10, 6, "10/6");
+        CHECK.makes("s2(*5)", 5, 6, "25/6");
+        CHECK.makes("s2(s2(+1))", 4, 0, "8/0");
     }
 
     private static void partsThatEnd() {
-        RouteEngine x = CHECK.engine("s3(fb>3!0)!1", "s2(fk=9)!2", "s3(>3)!3", "a3,9!0");
+        Engine x = CHECK.engine("s3(fb>3!0)!1", "s2(fk=9)!2", "s3(>3)!3", "a3,9!0");
         CHECK.due("send", x.send(0, 10, 5), 1);
         CHECK.got(x, 0, "4/5");
         CHECK.got(x, 1, "4/5");
@@ -140,13 +133,13 @@ public final class StepTest {
     }
 
     private static void otherRoutes() {
-        RouteEngine x = CHECK.engine("+1>2+1!0", "!1", "*2>3fb<50", "?b>30(+100)k");
+        Engine x = CHECK.engine("+1>2+1!0", "!1", "*2>3fb<50", "?b>30(+100)k");
         CHECK.due("send", x.send(0, 4, 5), 1);
         CHECK.got(x, 0, "11/10");
         CHECK.due("send that ends in the other route", x.send(0, 24, 5), 2);
         CHECK.got(x, 0, "11/10");
         CHECK.counts(x, "2 1 1 0 0 0 0 0 0 0 0 0 0");
-        RouteEngine y = CHECK.engine("s1(s1(s1(+1>1)))!0", "s1(s1(s1(+1>2)))", "s1(s1(s1(+1>3)))", "s1(s1(s1(+1!1)))");
+        Engine y = CHECK.engine("s1(s1(s1(+1>1)))!0", "s1(s1(s1(+1>2)))", "s1(s1(s1(+1>3)))", "s1(s1(s1(+1!1)))");
         CHECK.due("send through lists as deep as can be", y.send(0, 60, 5), 1);
         CHECK.got(y, 0, "64/5");
         CHECK.got(y, 1, "64/5");
@@ -154,7 +147,7 @@ public final class StepTest {
     }
 
     private static void copies() {
-        RouteEngine x = CHECK.engine("&1+1&3!0", "!1", "", "!3");
+        Engine x = CHECK.engine("&1+1&3!0", "!1", "", "!3");
         CHECK.due("send", x.send(0, 4, 5), 1);
         CHECK.counts(x, "1 1 0 0 0 0 0 0 0 2 0 0 0");
         CHECK.due("work", x.work(), 1);
@@ -177,7 +170,7 @@ public final class StepTest {
     }
 
     private static void deliveries() {
-        RouteEngine x = CHECK.engine("!2", "r+1!3");
+        Engine x = CHECK.engine("!2", "r+1!3");
         CHECK.due("send", x.send(0, 6, 7), 1);
         CHECK.got(x, 2, "6/7");
         CHECK.due("send", x.send(1, 1, 5), 1);
@@ -195,7 +188,7 @@ public final class StepTest {
     }
 
     private static void duplicates() {
-        RouteEngine x = CHECK.engine("i!0");
+        Engine x = CHECK.engine("i!0");
         for (int key : new int[] {1, 2, 3, 4}) {
             CHECK.due("send", x.send(0, 0, key), 1);
         }
@@ -212,20 +205,20 @@ public final class StepTest {
     }
 
     private static void duplicatesOfOneStep() {
-        RouteEngine x = CHECK.engine("i?b=1(>2)", "i>2", "i!0");
+        Engine x = CHECK.engine("i?b=1(>2)", "i>2", "i!0");
         CHECK.due("send", x.send(0, 1, 7), 1);
         CHECK.due("send by another way to the same step", x.send(1, 1, 7), 4);
         CHECK.due("send that the first step ends", x.send(0, 0, 7), 4);
         CHECK.due("send of key 0", x.send(0, 0, 0), 1);
-        RouteEngine y = CHECK.engine("ii!0");
+        Engine y = CHECK.engine("ii!0");
         CHECK.due("send through two steps", y.send(0, 1, 7), 1);
-        RouteEngine z = CHECK.engine(">1>1", "i");
+        Engine z = CHECK.engine(">1>1", "i");
         CHECK.due("send twice through one step", z.send(0, 1, 7), 4);
     }
 
     private static void hundredAttempts() {
         // 20 deliveries of route 3 and the step >3 make 21 attempts each.
-        RouteEngine x = CHECK.engine(">3>3>3>3!0kkkkkkkkkkkkkkk", ">3>3>3>3!0kkkkkkkkkkkkkkkk", "",
+        Engine x = CHECK.engine(">3>3>3>3!0kkkkkkkkkkkkkkk", ">3>3>3>3!0kkkkkkkkkkkkkkkk", "",
             "!1!1!1!1!1!1!1!1!1!1!1!1!1!1!1!1!1!1!1!1");
         CHECK.due("send of 100 attempts", x.send(0, 1, 1), 1);
         CHECK.due("send of 101 attempts", x.send(1, 1, 1), 7);
@@ -236,28 +229,28 @@ public final class StepTest {
 
     private static void cutParts() {
         // The first >1 takes 86 attempts. Of the second one's 14 the last is at the s of part 0.2.
-        RouteEngine x = CHECK.engine(">1>1", "s4(s4(s4(+1)))");
+        Engine x = CHECK.engine(">1>1", "s4(s4(s4(+1)))");
         CHECK.due("send", x.send(0, 0, 0), 1);
         CHECK.counts(x, "105 97 0 0 0 0 0 8 0 0 0 0 0");
         // The same, but now a step is left for the exchange itself.
-        RouteEngine y = CHECK.engine(">1>1k", "s4(s4(s4(+1)))");
+        Engine y = CHECK.engine(">1>1k", "s4(s4(s4(+1)))");
         CHECK.due("send", y.send(0, 0, 0), 7);
         CHECK.counts(y, "105 96 0 0 0 0 0 9 0 0 0 0 0");
-        RouteEngine z = CHECK.engine(">1>1>1", "s1(kkkkkkkkkkkkkkkkkkkkkkkkkkkkkkkkk)");
+        Engine z = CHECK.engine(">1>1>1", "s1(kkkkkkkkkkkkkkkkkkkkkkkkkkkkkkkkk)");
         CHECK.due("send of 105 attempts", z.send(0, 9, 0), 1);
         CHECK.counts(z, "4 3 0 0 0 0 0 1 0 0 0 0 0");
     }
 
     private static void attemptsOfInnerSteps() {
         // A run of route 3 takes 11 attempts: one at >3, five at ? and five at k.
-        RouteEngine x = CHECK.engine(">3>3>3>3>3>3>3>3>3!0", ">3>3>3>3>3>3>3>3>3!1!0", "",
+        Engine x = CHECK.engine(">3>3>3>3>3>3>3>3>3!0", ">3>3>3>3>3>3>3>3>3!1!0", "",
             "?b<9(k)?b<9(k)?b<9(k)?b<9(k)?b<9(k)");
         CHECK.due("send of 100 attempts", x.send(0, 1, 1), 1);
         CHECK.due("send of 101 attempts", x.send(1, 1, 1), 7);
         CHECK.due("delivered", x.delivered(0), 1);
         CHECK.due("delivered", x.delivered(1), 1);
         // A part that has no step to attempt is completed, however many attempts were made.
-        RouteEngine y = CHECK.engine(">3>3>3>3>3>3>3>3>3s4()", "", "", "?b<9(k)?b<9(k)?b<9(k)?b<9(k)?b<9(k)");
+        Engine y = CHECK.engine(">3>3>3>3>3>3>3>3>3s4()", "", "", "?b<9(k)?b<9(k)?b<9(k)?b<9(k)?b<9(k)");
         CHECK.due("send", y.send(0, 1, 1), 1);
         CHECK.counts(y, "5 5 0 0 0 0 0 0 0 0 0 0 0");
     }

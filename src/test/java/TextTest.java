@@ -20,7 +20,7 @@ public final class TextTest {
     }
 
     private static void put() {
-        RouteEngine x = new RouteEngine();
+        Engine x = new Engine();
         CHECK.no("put(-1)", x.put(-1, 'k'));
         CHECK.no("put(4)", x.put(4, 'k'));
         CHECK.no("put(least)", x.put(Integer.MIN_VALUE, 'k'));
@@ -36,7 +36,7 @@ public final class TextTest {
     }
 
     private static void putAtMostForty() {
-        RouteEngine x = new RouteEngine();
+        Engine x = new Engine();
         for (int r = 0; r < 4; r++) {
             for (int i = 0; i < 40; i++) {
                 CHECK.yes("put", x.put(r, i % 2 == 0 ? '!' : (char) ('0' + r)));
@@ -61,7 +61,7 @@ public final class TextTest {
     }
 
     private static void clear() {
-        RouteEngine x = new RouteEngine();
+        Engine x = new Engine();
         CHECK.no("clear(-1)", x.clear(-1));
         CHECK.no("clear(4)", x.clear(4));
         CHECK.no("clear(most)", x.clear(Integer.MAX_VALUE));
@@ -77,7 +77,7 @@ public final class TextTest {
     }
 
     private static void routesRunAsRead() {
-        RouteEngine x = CHECK.engine("!0");
+        Engine x = CHECK.engine("!0");
         CHECK.yes("put", x.put(0, 'x'));
         CHECK.due("send", x.send(0, 1, 1), 1);
         CHECK.due("delivered", x.delivered(0), 1);
@@ -96,130 +96,122 @@ public final class TextTest {
             "q2q3q4", ">1>2>3", ">0003", "?b=1(s1(fk=2)):(s2())", "s1()s1()s1()s1()",
         };
         for (String text : texts) {
-            error(0, text, -1);
+            CHECK.error(0, text, -1);
         }
-        error(1, ">2>3", -1);
-        error(2, ">3", -1);
+        CHECK.error(1, ">2>3", -1);
+        CHECK.error(2, ">3", -1);
     }
 
     private static void wrongCharacters() {
-        error(0, "x", 0);
-        error(0, ")", 0);
-        error(0, "k)", 1);
-        error(0, "(k)", 0);
-        error(0, "1", 0);
-        error(0, "k,", 1);
-        error(0, "+k", 1);
-        error(0, "+-1", 1);
-        error(0, "+12345", 5);
-        error(0, "fa<1", 1);
-        error(0, "fb!1", 2);
-        error(0, "fb<k", 3);
-        error(0, "?1", 1);
-        error(0, "?b<1k", 4);
-        error(0, "?b<1()(", 6);
-        error(0, "?b<1():k", 7);
-        error(0, "?b<1():():()", 9);
-        error(0, "s1():()", 4);
-        error(0, "sk", 1);
-        error(0, "s1k", 2);
-        error(0, "a2k", 2);
-        error(0, "a2,,", 3);
-        error(0, "q,", 1);
-        error(0, "k:(", 1);
-        error(0, "s2(k))", 5);
-        error(0, "K", 0);
-        error(0, "~", 0);
+        CHECK.error(0, "x", 0);
+        CHECK.error(0, ")", 0);
+        CHECK.error(0, "k)", 1);
+        CHECK.error(0, "(k)", 0);
+        CHECK.error(0, "1", 0);
+        CHECK.error(0, "k,", 1);
+        CHECK.error(0, "+k", 1);
+        CHECK.error(0, "+-1", 1);
+        CHECK.error(0, "+12345", 5);
+        CHECK.error(0, "fa<1", 1);
+        CHECK.error(0, "fb!1", 2);
+        CHECK.error(0, "fb<k", 3);
+        CHECK.error(0, "?1", 1);
+        CHECK.error(0, "?b<1k", 4);
+        CHECK.error(0, "?b<1()(", 6);
+        CHECK.error(0, "?b<1():k", 7);
+        CHECK.error(0, "?b<1():():()", 9);
+        CHECK.error(0, "s1():()", 4);
+        CHECK.error(0, "sk", 1);
+        CHECK.error(0, "s1k", 2);
+        CHECK.error(0, "a2k", 2);
+        CHECK.error(0, "a2,,", 3);
+        CHECK.error(0, "q,", 1);
+        CHECK.error(0, "k:(", 1);
+        CHECK.error(0, "s2(k))", 5);
+        CHECK.error(0, "K", 0);
+        CHECK.error(0, "~", 0);
     }
 
     private static void wrongNumbers() {
-        error(0, "s0(", 1);
-        error(0, "s5(", 1);
-        error(0, "s11()", 1);
-        error(0, "&4", 1);
-        error(0, "!4", 1);
-        error(0, "!10", 1);
-        error(0, ">0", 1);
-        error(0, ">4", 1);
-        error(1, ">1", 1);
-        error(1, ">0", 1);
-        error(2, ">2", 1);
-        error(3, ">3", 1);
-        error(3, ">4", 1);
-        error(0, "a1,5", 1);
-        error(0, "a5,5", 1);
-        error(0, "a2,0", 3);
-        error(0, "a2,100", 3);
-        error(0, "q1", 1);
-        error(0, "q5", 1);
-        error(0, "fb%0", 3);
-        error(0, "fk%0000", 3);
-        error(0, "?b%0(", 3);
-        error(0, "kk!7", 3);
+        CHECK.error(0, "s0(", 1);
+        CHECK.error(0, "s5(", 1);
+        CHECK.error(0, "s11()", 1);
+        CHECK.error(0, "&4", 1);
+        CHECK.error(0, "!4", 1);
+        CHECK.error(0, "!10", 1);
+        CHECK.error(0, ">0", 1);
+        CHECK.error(0, ">4", 1);
+        CHECK.error(1, ">1", 1);
+        CHECK.error(1, ">0", 1);
+        CHECK.error(2, ">2", 1);
+        CHECK.error(3, ">3", 1);
+        CHECK.error(3, ">4", 1);
+        CHECK.error(0, "a1,5", 1);
+        CHECK.error(0, "a5,5", 1);
+        CHECK.error(0, "a2,0", 3);
+        CHECK.error(0, "a2,100", 3);
+        CHECK.error(0, "q1", 1);
+        CHECK.error(0, "q5", 1);
+        CHECK.error(0, "fb%0", 3);
+        CHECK.error(0, "fk%0000", 3);
+        CHECK.error(0, "?b%0(", 3);
+        CHECK.error(0, "kk!7", 3);
     }
 
     private static void wrongLists() {
-        error(0, "?b<1(a2,1)", 5);
-        error(0, "?b<1():(q2)", 8);
-        error(0, "s2(q2)", 3);
-        error(0, "s2(s2(a", 6);
-        error(0, "s2(s2(s2(s2(", 11);
-        error(0, "s2(s2(s2(?b<1(", 13);
-        error(0, "s1(s1(?b<1(k):(s1(", 17);
-        error(0, "s1(s1(s1()s1()?b<1():()))", -1);
-        error(0, "s1(s1(s1()s1()?b<1():(s1(", 24);
+        CHECK.error(0, "?b<1(a2,1)", 5);
+        CHECK.error(0, "?b<1():(q2)", 8);
+        CHECK.error(0, "s2(q2)", 3);
+        CHECK.error(0, "s2(s2(a", 6);
+        CHECK.error(0, "s2(s2(s2(s2(", 11);
+        CHECK.error(0, "s2(s2(s2(?b<1(", 13);
+        CHECK.error(0, "s1(s1(?b<1(k):(s1(", 17);
+        CHECK.error(0, "s1(s1(s1()s1()?b<1():()))", -1);
+        CHECK.error(0, "s1(s1(s1()s1()?b<1():(s1(", 24);
     }
 
     private static void textsThatEndTooEarly() {
-        error(0, "+", 1);
-        error(0, "?", 1);
-        error(0, "?b", 2);
-        error(0, "?b<", 3);
-        error(0, "?b<1", 4);
-        error(0, "?b<1(", 5);
-        error(0, "?b<1()", -1);
-        error(0, "?b<1():", 7);
-        error(0, "?b<1():(", 8);
-        error(0, "f", 1);
-        error(0, "fk", 2);
-        error(0, "fk=", 3);
-        error(0, "s", 1);
-        error(0, "s2", 2);
-        error(0, "s2(k", 4);
-        error(0, "a", 1);
-        error(0, "a2", 2);
-        error(0, "a2,", 3);
-        error(0, "q", 1);
-        error(0, "!", 1);
-        error(0, "&", 1);
-        error(0, ">", 1);
+        CHECK.error(0, "+", 1);
+        CHECK.error(0, "?", 1);
+        CHECK.error(0, "?b", 2);
+        CHECK.error(0, "?b<", 3);
+        CHECK.error(0, "?b<1", 4);
+        CHECK.error(0, "?b<1(", 5);
+        CHECK.error(0, "?b<1()", -1);
+        CHECK.error(0, "?b<1():", 7);
+        CHECK.error(0, "?b<1():(", 8);
+        CHECK.error(0, "f", 1);
+        CHECK.error(0, "fk", 2);
+        CHECK.error(0, "fk=", 3);
+        CHECK.error(0, "s", 1);
+        CHECK.error(0, "s2", 2);
+        CHECK.error(0, "s2(k", 4);
+        CHECK.error(0, "a", 1);
+        CHECK.error(0, "a2", 2);
+        CHECK.error(0, "a2,", 3);
+        CHECK.error(0, "q", 1);
+        CHECK.error(0, "!", 1);
+        CHECK.error(0, "&", 1);
+        CHECK.error(0, ">", 1);
     }
 
     private static void whichErrorIsFirst() {
-        error(0, "s5", 1);
-        error(0, "s00011(", 5);
-        error(0, "s12345(", 1);
-        error(0, "a99999", 1);
-        error(0, "a00025", 5);
-        error(0, "a2,10000", 3);
-        error(0, "a2,00990", 7);
-        error(0, "!00012", 5);
-        error(0, "fb%00000", 3);
-        error(0, "s2(s2(s2(s5(", 10);
-        error(0, "s2(q9", 3);
-        error(0, "kxy", 1);
-    }
-
-    private static void error(int r, String text, int place) {
-        RouteEngine x = new RouteEngine();
-        for (char c : text.toCharArray()) {
-            CHECK.yes("put", x.put(r, c));
-        }
-        CHECK.due("read() of " + text + " as route " + r, x.read(), place < 0 ? 0 : 100 * (r + 1) + place);
+        CHECK.error(0, "s5", 1);
+        CHECK.error(0, "s00011(", 5);
+        CHECK.error(0, "s12345(", 1);
+        CHECK.error(0, "a99999", 1);
+        CHECK.error(0, "a00025", 5);
+        CHECK.error(0, "a2,10000", 3);
+        CHECK.error(0, "a2,00990", 7);
+        CHECK.error(0, "!00012", 5);
+        CHECK.error(0, "fb%00000", 3);
+        CHECK.error(0, "s2(s2(s2(s5(", 10);
+        CHECK.error(0, "s2(q9", 3);
+        CHECK.error(0, "kxy", 1);
     }
 
     private static void leastRoute() {
-        RouteEngine x = new RouteEngine();
+        Engine x = new Engine();
         CHECK.write(x, "k", "kk+", "x", "kx");
         CHECK.due("read", x.read(), 203);
         CHECK.write(x, "k", "kk+1");
@@ -231,7 +223,7 @@ public final class TextTest {
     }
 
     private static void wrongReadChangesNothing() {
-        RouteEngine x = CHECK.engine("i&1!0", "a2,9", "q2");
+        Engine x = CHECK.engine("i&1!0", "a2,9", "q2");
         CHECK.due("send", x.send(0, 1, 2), 1);
         CHECK.due("send", x.send(1, 3, 4), 3);
         CHECK.due("send", x.send(2, 5, 6), 3);
@@ -246,7 +238,7 @@ public final class TextTest {
     }
 
     private static void rightReadEmpties() {
-        RouteEngine x = CHECK.engine("i&1!0", "a2,9!2", "q2!3");
+        Engine x = CHECK.engine("i&1!0", "a2,9!2", "q2!3");
         CHECK.yes("clause", x.clause(1, 0, 0, true, false));
         CHECK.yes("fail", x.fail(1, 1, 3));
         CHECK.due("pass", x.pass(4), 0);

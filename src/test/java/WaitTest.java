@@ -27,7 +27,7 @@ public final class WaitTest {
     }
 
     private static void workInOrder() {
-        RouteEngine x = CHECK.engine("&1&2&0", "+1!1", "fb>5!2");
+        Engine x = CHECK.engine("&1&2&0", "+1!1", "fb>5!2");
         CHECK.due("work", x.work(), -1);
         CHECK.counts(x, "0 0 0 0 0 0 0 0 0 0 0 0 0");
         CHECK.due("send", x.send(0, 4, 5), 1);
@@ -41,7 +41,7 @@ public final class WaitTest {
     }
 
     private static void workLeavesFirst() {
-        RouteEngine x = CHECK.engine("+1!0&0", "&0");
+        Engine x = CHECK.engine("+1!0&0", "&0");
         for (int i = 0; i < 8; i++) {
             CHECK.due("send", x.send(1, 10 * i, i), 1);
         }
@@ -51,7 +51,7 @@ public final class WaitTest {
             CHECK.due("body", x.body(0, 0), 10 * (i % 8) + i / 8 + 1);
             CHECK.due("key", x.key(0, 0), i % 8);
         }
-        RouteEngine y = CHECK.engine("+3&1", "k!0");
+        Engine y = CHECK.engine("+3&1", "k!0");
         CHECK.yes("clause", y.clause(1, 0, 0, true, true));
         CHECK.due("send", y.send(0, 1, 2), 1);
         CHECK.yes("fail", y.fail(0, 1, 1));
@@ -61,7 +61,7 @@ public final class WaitTest {
     }
 
     private static void wrongPasses() {
-        RouteEngine x = CHECK.engine("a2,1!0");
+        Engine x = CHECK.engine("a2,1!0");
         CHECK.due("send", x.send(0, 1, 1), 3);
         for (int n : new int[] {0, -1, 101, Integer.MIN_VALUE, Integer.MAX_VALUE}) {
             CHECK.due("pass(" + n + ")", x.pass(n), -1);
@@ -70,7 +70,7 @@ public final class WaitTest {
     }
 
     private static void passGrowsTheTime() {
-        RouteEngine x = new RouteEngine();
+        Engine x = new Engine();
         CHECK.due("pass", x.pass(1), 0);
         CHECK.due("pass", x.pass(100), 0);
         CHECK.due("the time", x.count(8), 101);
@@ -78,7 +78,7 @@ public final class WaitTest {
 
     private static void groupBySize() {
         for (int size = 2; size <= 4; size++) {
-            RouteEngine x = CHECK.engine("a" + size + ",9!0");
+            Engine x = CHECK.engine("a" + size + ",9!0");
             for (int i = 1; i < size; i++) {
                 CHECK.due("send", x.send(0, i, 7), 3);
                 CHECK.groups(x, "7/" + (i * (i + 1) / 2) + "/" + i + "/9");
@@ -93,7 +93,7 @@ public final class WaitTest {
     }
 
     private static void groupByTime() {
-        RouteEngine x = CHECK.engine("a2,3!0");
+        Engine x = CHECK.engine("a2,3!0");
         CHECK.due("pass", x.pass(10), 0);
         CHECK.due("send", x.send(0, 5, 6), 3);
         CHECK.groups(x, "6/5/1/13");
@@ -103,14 +103,14 @@ public final class WaitTest {
         CHECK.got(x, 0, "5/6");
         CHECK.counts(x, "2 1 0 1 0 0 0 0 13 0 0 0 0");
         CHECK.due("pass", x.pass(100), 0);
-        RouteEngine y = CHECK.engine("a4,99");
+        Engine y = CHECK.engine("a4,99");
         CHECK.due("send", y.send(0, 5, 6), 3);
         CHECK.due("pass", y.pass(98), 0);
         CHECK.due("pass", y.pass(1), 1);
     }
 
     private static void groupsInTheirOrder() {
-        RouteEngine x = CHECK.engine("a4,9!0", "a3,4!0");
+        Engine x = CHECK.engine("a4,9!0", "a3,4!0");
         CHECK.due("send", x.send(0, 1, 11), 3);
         CHECK.due("send", x.send(1, 2, 12), 3);
         CHECK.due("send", x.send(0, 3, 13), 3);
@@ -128,7 +128,7 @@ public final class WaitTest {
     }
 
     private static void groupsOfOneStep() {
-        RouteEngine x = CHECK.engine("a3,9!0");
+        Engine x = CHECK.engine("a3,9!0");
         for (int key = 1; key <= 3; key++) {
             CHECK.due("send", x.send(0, key, key), 3);
         }
@@ -142,7 +142,7 @@ public final class WaitTest {
     }
 
     private static void groupsOfTwoSteps() {
-        RouteEngine x = CHECK.engine("a2,9a2,8!0", "a2,7!1", ">3", "a2,6!2");
+        Engine x = CHECK.engine("a2,9a2,8!0", "a2,7!1", ">3", "a2,6!2");
         CHECK.due("send", x.send(0, 1, 5), 3);
         CHECK.due("send", x.send(1, 2, 5), 3);
         CHECK.due("send", x.send(2, 3, 5), 3);
@@ -159,7 +159,7 @@ public final class WaitTest {
     }
 
     private static void groupWrongArguments() {
-        RouteEngine x = CHECK.engine("a2,9");
+        Engine x = CHECK.engine("a2,9");
         CHECK.due("send", x.send(0, 3, 5), 3);
         int[][] wrong = {
             {-1, 0}, {1, 0}, {1, 3}, {0, -1}, {0, 4}, {Integer.MAX_VALUE, 0}, {Integer.MIN_VALUE, 0},
@@ -172,7 +172,7 @@ public final class WaitTest {
     }
 
     private static void sumsWrap() {
-        RouteEngine x = CHECK.engine("a3,9!0");
+        Engine x = CHECK.engine("a3,9!0");
         for (int i = 0; i < 3; i++) {
             CHECK.due("send", x.send(0, Integer.MAX_VALUE, Integer.MIN_VALUE), 3);
         }
@@ -180,7 +180,7 @@ public final class WaitTest {
     }
 
     private static void releasedBehindTheStep() {
-        RouteEngine x = CHECK.engine(">1!0", "!1a2,9+1!2");
+        Engine x = CHECK.engine(">1!0", "!1a2,9+1!2");
         CHECK.yes("clause", x.clause(1, 0, 0, true, true));
         CHECK.due("send", x.send(0, 1, 5), 3);
         CHECK.due("send", x.send(0, 2, 5), 3);
@@ -195,7 +195,7 @@ public final class WaitTest {
     }
 
     private static void releasesWithinOneTick() {
-        RouteEngine x = CHECK.engine("a2,5fk<9!0", "a2,5>2", "a2,1!1");
+        Engine x = CHECK.engine("a2,5fk<9!0", "a2,5>2", "a2,1!1");
         CHECK.due("send", x.send(0, 1, 3), 3);
         CHECK.due("send", x.send(0, 2, 9), 3);
         CHECK.due("send", x.send(1, 3, 4), 3);
@@ -207,7 +207,7 @@ public final class WaitTest {
         CHECK.got(x, 1, "3/4");
         CHECK.counts(x, "7 2 1 4 0 0 0 0 8 0 0 0 0");
         // The second of two that fall due at once fills the group that the first one opened.
-        RouteEngine y = CHECK.engine("a4,5>1", "a2,9!1");
+        Engine y = CHECK.engine("a4,5>1", "a2,9!1");
         CHECK.due("send", y.send(0, 1, 3), 3);
         CHECK.due("pass", y.pass(5), 1);
         CHECK.due("send", y.send(0, 2, 3), 3);
@@ -217,7 +217,7 @@ public final class WaitTest {
     }
 
     private static void timeThatRunsAhead() {
-        RouteEngine x = CHECK.engine("a2,5!0", "!1", "a2,50!0");
+        Engine x = CHECK.engine("a2,5!0", "!1", "a2,50!0");
         CHECK.yes("clause", x.clause(1, 2, 20, true, false));
         CHECK.due("send", x.send(2, 7, 8), 3);
         CHECK.due("send", x.send(0, 1, 2), 3);
@@ -232,7 +232,7 @@ public final class WaitTest {
     }
 
     private static void heldInOrder() {
-        RouteEngine x = CHECK.engine("q4!0");
+        Engine x = CHECK.engine("q4!0");
         int[] keys = {5, -3, 5, Integer.MIN_VALUE, 2, 1, 2, 1};
         for (int i = 0; i < 3; i++) {
             CHECK.due("send", x.send(0, i, keys[i]), 3);
@@ -247,7 +247,7 @@ public final class WaitTest {
         }
         CHECK.got(x, 0, "3/" + Integer.MIN_VALUE + " 1/-3 0/5 2/5 5/1 7/1 4/2 6/2");
         for (int size = 2; size <= 3; size++) {
-            RouteEngine y = CHECK.engine("q" + size + "!0");
+            Engine y = CHECK.engine("q" + size + "!0");
             for (int i = 0; i < size; i++) {
                 CHECK.due("delivered", y.delivered(0), 0);
                 CHECK.due("send", y.send(0, i, -i), 3);
@@ -259,7 +259,7 @@ public final class WaitTest {
     }
 
     private static void heldFromManyWays() {
-        RouteEngine x = CHECK.engine(">2!3", "s2(k>2)!3", "+1q3!0q2!1");
+        Engine x = CHECK.engine(">2!3", "s2(k>2)!3", "+1q3!0q2!1");
         CHECK.due("send", x.send(0, 1, 9), 3);
         CHECK.due("delivered", x.delivered(3), 0);
         CHECK.due("send whose parts are held", x.send(1, 9, 1), 1);
@@ -270,7 +270,7 @@ public final class WaitTest {
         CHECK.due("pass", x.pass(100), 0);
         CHECK.due("count", x.count(11), 1);
         // The original of what was held is the body with which it was held.
-        RouteEngine y = CHECK.engine("*5q2+1!0");
+        Engine y = CHECK.engine("*5q2+1!0");
         CHECK.yes("clause", y.clause(1, 0, 0, true, true));
         CHECK.yes("fail", y.fail(0, 1, 1));
         CHECK.due("send", y.send(0, 1, 1), 3);
@@ -281,14 +281,14 @@ public final class WaitTest {
 
     private static void readyInTheirOrder() {
         // Those that the first q makes ready go on one after the other; what they make ready comes behind them.
-        RouteEngine x = CHECK.engine("s3(k>1)!0", "q3!0?b=3(k)a2,9!0");
+        Engine x = CHECK.engine("s3(k>1)!0", "q3!0?b=3(k)a2,9!0");
         CHECK.due("send", x.send(0, 10, 5), 1);
         CHECK.got(x, 0, "0/5 3/3 3/3 4/4 6/3");
         CHECK.groups(x, "4/4/1/9");
     }
 
     private static void readyAreCut() {
-        RouteEngine y = CHECK.engine(">3>3>3>3kkkkkkkkkkkkk>2", "", "q2k", "kkkkkkkkkkkkkkkkkkkk");
+        Engine y = CHECK.engine(">3>3>3>3kkkkkkkkkkkkk>2", "", "q2k", "kkkkkkkkkkkkkkkkkkkk");
         CHECK.due("send", y.send(0, 1, 1), 3);
         CHECK.due("send of 99 attempts, and two that are ready", y.send(0, 1, 1), 3);
         CHECK.counts(y, "4 1 0 2 0 0 0 1 0 0 0 0 0");
@@ -298,7 +298,7 @@ public final class WaitTest {
     }
 
     private static void passHasHundredAttempts() {
-        RouteEngine x = CHECK.engine("a2,1>2k", "a2,9>2k", "kkkkkkkkkkkkkkkkkkkkkkkkkkkkkkkkkkkkkkkk");
+        Engine x = CHECK.engine("a2,1>2k", "a2,9>2k", "kkkkkkkkkkkkkkkkkkkkkkkkkkkkkkkkkkkkkkkk");
         for (int key = 1; key <= 3; key++) {
             CHECK.due("send", x.send(0, 1, key), 3);
         }
@@ -309,7 +309,7 @@ public final class WaitTest {
     }
 
     private static void eachCallHasHundredAttempts() {
-        RouteEngine x = CHECK.engine("&1&2>3>3>3>3kkkkkkkkkkkkkk", "k!1", "a2,9k!2", "kkkkkkkkkkkkkkkkkkkk");
+        Engine x = CHECK.engine("&1&2>3>3>3>3kkkkkkkkkkkkkk", "k!1", "a2,9k!2", "kkkkkkkkkkkkkkkkkkkk");
         CHECK.due("send of 100 attempts", x.send(0, 1, 1), 1);
         CHECK.due("work", x.work(), 1);
         CHECK.due("work", x.work(), 3);
