@@ -206,6 +206,10 @@ public final class RunBoundsTest {
         CHECK.due("send that is cut before its copy", z.send(1, 1, 1), 7);
         CHECK.due("send that is cut before it is filtered", z.send(2, 1, 1), 7);
         CHECK.counts(z, "3 1 0 0 0 0 0 2 0 1 0 0 0");
+        Engine w = engine(attempts(99) + ">2", attempts(98) + ">2", "i");
+        CHECK.due("send that is cut before its key is kept", w.send(0, 5, 5), 7);
+        CHECK.due("send whose key is kept by the 100th attempt", w.send(1, 5, 5), 1);
+        CHECK.due("send of the key that was kept", w.send(2, 5, 5), 4);
     }
 
     private static void redeliveriesAreAttempts() {

@@ -17,7 +17,10 @@ public final class StepBoundsTest {
         testsWithoutRest();
         secondListIfThereIsOne();
         filtersAtTheBound();
+        otherRoutes();
         partsRoundedDown();
+        exchangeBehindItsParts();
+        originals();
         sumOfPartsThatCompleted();
         eightInTheQueue();
         eightInTheQueueInOneCall();
@@ -189,6 +192,14 @@ public final class StepBoundsTest {
         }
     }
 
+    private static void otherRoutes() {
+        CHECK.says("the exchange runs through that route, and goes on here, if it has not ended there");
+        Engine x = CHECK.engine(">1+1!0", "fb<5>3+1", "", "+1");
+        CHECK.due("send", x.send(0, 4, 6), 1);
+        CHECK.due("send that ends there", x.send(0, 5, 6), 2);
+        CHECK.got(x, 0, "7/6");
+    }
+
     private static void partsRoundedDown() {
         CHECK.says("N PARTS run through the list, one after the other, for i = 0 .. N - 1: each is an exchange of its own "
             + "that begins with the body (body + i) / N, rounded down, and the exchange's key.");
@@ -216,6 +227,45 @@ public final class StepBoundsTest {
             CHECK.due("send", x.send(0, 9, 9), 1);
             CHECK.counts(x, (n + 1) + " " + (n + 1) + " 0 0 0 0 0 0 0 0 0 0 0");
         }
+    }
+
+    private static void exchangeBehindItsParts() {
+        CHECK.says("A part that comes to the end of the list ends COMPLETED. Then the exchange goes on with its own key");
+        CHECK.makes("s1(k+1)", 5, 6, "6/6");
+        CHECK.makes("s2(k+1)+1", 5, 6, "8/6");
+        CHECK.makes("?b%1(s2(+1))+1", 4, 6, "7/6");
+        CHECK.makes("s2(?b%1(s2(k+1)))+1", 8, 6, "13/6");
+        CHECK.makes("s2(s2(s2(k+1)+1)+1)+1", 8, 6, "23/6");
+    }
+
+    /** Endpoint 0 throws, and the dead letters get the original. */
+    private static Engine throwing(String... texts) {
+        Engine x = CHECK.engine(texts);
+        CHECK.yes("clause", x.clause(1, 0, 0, true, true));
+        CHECK.yes("fail", x.fail(0, 9, 1));
+        return x;
+    }
+
+    private static void originals() {
+        CHECK.says("the original is the body that it had when it began");
+        Engine sent = throwing("+1?b%1(+1>1)", "+1!0");
+        CHECK.due("send", sent.send(0, 5, 6), 5);
+        CHECK.got(sent, 4, "5/6");
+        Engine parts = throwing("+1s2(+1!0)+1!0");
+        CHECK.due("send", parts.send(0, 8, 6), 5);
+        CHECK.got(parts, 4, "4/6 5/6 8/6");
+        Engine copy = throwing("+1&1", "+1!0");
+        CHECK.due("send", copy.send(0, 5, 6), 1);
+        CHECK.due("work", copy.work(), 5);
+        CHECK.got(copy, 4, "6/6");
+        Engine group = throwing("+1a2,9+1!0");
+        CHECK.due("send", group.send(0, 5, 6), 3);
+        CHECK.due("send", group.send(0, 6, 6), 3);
+        CHECK.got(group, 4, "13/6");
+        Engine held = throwing("+1q2+1!0");
+        CHECK.due("send", held.send(0, 5, 6), 3);
+        CHECK.due("send", held.send(0, 7, 6), 3);
+        CHECK.got(held, 4, "6/6 8/6");
     }
 
     private static void sumOfPartsThatCompleted() {
@@ -377,6 +427,20 @@ public final class StepBoundsTest {
         CHECK.due("send of the key kept first", y.send(3, 1, 1), 1);
         CHECK.due("send of a key kept later", y.send(0, 3, 3), 4);
         CHECK.due("send of a key kept later", y.send(3, 3, 3), 4);
+        // What one step forgets is not seen by the step beside it.
+        Engine z = CHECK.engine("iq4!0", "?k<6(i)i!1");
+        for (int key = 1; key <= 8; key++) {
+            CHECK.due("send", z.send(0, 10 * key, key), 3);
+        }
+        CHECK.got(z, 0, "10/1 20/2 30/3 40/4 50/5 60/6 70/7 80/8");
+        for (int key : new int[] {9, 8, 1, 2}) {
+            CHECK.due("send of a new key", z.send(1, key, key), 1);
+        }
+        CHECK.due("send of a key that the second step has kept", z.send(1, 9, 9), 4);
+        CHECK.due("send of a fifth key for the second step", z.send(1, 3, 3), 1);
+        CHECK.due("send of the key that it has forgotten", z.send(1, 9, 9), 1);
+        CHECK.due("send of a key that it has forgotten for this one", z.send(1, 8, 8), 1);
+        CHECK.due("send of a key that the first step still keeps", z.send(1, 1, 1), 4);
     }
 
     private static void threeGroupsOfAStep() {
@@ -435,6 +499,13 @@ public final class StepBoundsTest {
             CHECK.due("send", x.send(0, 5, 6), 3);
             CHECK.groups(x, "6/5/1/" + 2 * wait);
         }
+        // The time is the one at which it is opened, be it by a redelivery in the same run.
+        Engine y = CHECK.engine("!0a2,9");
+        CHECK.yes("clause", y.clause(1, 2, 5, true, false));
+        CHECK.yes("fail", y.fail(0, 2, 1));
+        CHECK.due("pass", y.pass(100), 0);
+        CHECK.due("send", y.send(0, 1, 2), 3);
+        CHECK.groups(y, "2/1/1/124");
     }
 
     private static void groupOfTheSize() {

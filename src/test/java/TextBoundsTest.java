@@ -1,3 +1,6 @@
+import java.util.ArrayList;
+import java.util.List;
+
 /**
  * The bounds that the document names for texts, and in promises 2, 3 and 4. Each test stands
  * beside the words that it tests, on both sides of the bound. That a refused call changes
@@ -25,6 +28,7 @@ public final class TextBoundsTest {
         orderingSize();
         waitingStepsInside();
         parenthesesThreeDeep();
+        fourthParenthesis();
         charactersThatMayNotStand();
         fifthDigit();
         firstDigitOfWrongNumber();
@@ -238,22 +242,26 @@ public final class TextBoundsTest {
         CHECK.error(0, "q9", 1);
     }
 
-    private static void parenthesesThreeDeep() {
-        CHECK.says("parentheses may not stand more than 3 deep.");
+    /** All ways to open three parentheses. */
+    private static List<String> threeOpenings() {
+        List<String> all = new ArrayList<>();
         for (String first : OPENINGS) {
             for (String second : OPENINGS) {
                 for (String third : OPENINGS) {
-                    String three = first + second + third;
-                    CHECK.error(0, three + "k)))k", RIGHT);
-                    CHECK.error(0, three + ")" + third + ")))", RIGHT);
-                    CHECK.says("a ( that would be the fourth deep");
-                    CHECK.error(0, three + "s1(", three.length() + 2);
-                    CHECK.error(0, three + "ks1()", three.length() + 3);
-                    CHECK.error(0, three + "?b<1(k))))", three.length() + 4);
-                    CHECK.error(0, three + ")" + third + "s4()", three.length() + third.length() + 3);
-                    CHECK.says("parentheses may not stand more than 3 deep.");
+                    all.add(first + second + third);
                 }
             }
+        }
+        return all;
+    }
+
+    private static void parenthesesThreeDeep() {
+        CHECK.says("parentheses may not stand more than 3 deep.");
+        for (String three : threeOpenings()) {
+            CHECK.error(0, three + "k)))k", RIGHT);
+            CHECK.error(0, three + ")s1()))", RIGHT);
+            CHECK.error(0, three + ")?b<1():(k)))", RIGHT);
+            CHECK.error(0, three + "))s1(s1(k)))", RIGHT);
         }
         Engine x = CHECK.engine("s1(s1(s1(+1>1)))!0", "s1(s1(s1(+1>2)))", "s1(s1(s1(+1>3)))", "s1(s1(s1(+1!1)))");
         CHECK.due("send through the deepest that can be written", x.send(0, 60, 5), 1);
@@ -264,6 +272,18 @@ public final class TextBoundsTest {
             "?b%1(?b=0():(?b%1(+1>3)))", "?b%1(?b%1(?b=0():(+1)))");
         CHECK.due("send", y.send(0, 60, 5), 1);
         CHECK.got(y, 0, "64/5");
+    }
+
+    private static void fourthParenthesis() {
+        CHECK.says("a ( that would be the fourth deep");
+        for (String three : threeOpenings()) {
+            CHECK.error(0, three + "s1(", three.length() + 2);
+            CHECK.error(0, three + "ks1()", three.length() + 3);
+            CHECK.error(0, three + "?b<1(k))))", three.length() + 4);
+            CHECK.error(0, three + ")s1(s4()", three.length() + 6);
+            CHECK.error(0, three + ")?b<1():(s4()", three.length() + 11);
+            CHECK.error(0, three + "))s1(s1(s1(", three.length() + 10);
+        }
     }
 
     /** Of the characters 33 .. 126 exactly these may stand behind the text. */
@@ -380,7 +400,8 @@ public final class TextBoundsTest {
     }
 
     private static void numberIsLookedAtFirst() {
-        CHECK.says("a number is looked at as soon as its last digit was read (its fourth, if there are more: "
+        CHECK.says("Whichever of these the reader comes to first: "
+            + "a number is looked at as soon as its last digit was read (its fourth, if there are more: "
             + "a fifth one is the error only when these were right)");
         CHECK.error(0, "s5", 1);
         CHECK.error(0, "s4", 2);
@@ -409,6 +430,14 @@ public final class TextBoundsTest {
         CHECK.error(0, "fb%00001", 3);
         CHECK.error(0, "fb%00010", 7);
         CHECK.error(0, "fb<00000", 7);
+        // Of two errors the first one, whichever kinds they are.
+        String[] kinds = {"x", "!4", "s1(q", "s1(s1(s1(s1(", "+12345", "f"};
+        int[] places = {0, 1, 3, 11, 5, 1};
+        for (int i = 0; i < kinds.length; i++) {
+            for (String second : kinds) {
+                CHECK.error(0, "kk" + kinds[i] + second, 2 + places[i]);
+            }
+        }
     }
 
     private static void placesFromZero() {
@@ -520,6 +549,11 @@ public final class TextBoundsTest {
             CHECK.yes("clear", x.clear(r));
             CHECK.append(x, r, "k");
             CHECK.due("read() of a short text behind a long one", x.read(), 0);
+            CHECK.append(x, r, "k".repeat(38) + "x");
+            CHECK.due("read()", x.read(), 100 * (r + 1) + 39);
+            CHECK.yes("clear", x.clear(r));
+            CHECK.append(x, r, "k".repeat(39));
+            CHECK.due("read() of 39 characters where 40 were", x.read(), 0);
         }
     }
 
