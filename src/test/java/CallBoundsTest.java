@@ -240,6 +240,16 @@ public final class CallBoundsTest {
         CHECK.groups(x, "3/3/1/10");
         CHECK.due("pass", x.pass(1), 1);
         CHECK.got(x, 0, "1/1 2/2 4/4 3/3");
+        // A redelivery brings the time beyond both: the one opened first is due later than the other.
+        Engine y = CHECK.engine("a4,9!0", "a4,8!0", "!1");
+        CHECK.due("send", y.send(0, 1, 1), 3);
+        CHECK.due("send", y.send(1, 2, 2), 3);
+        CHECK.yes("clause", y.clause(1, 1, 20, true, false));
+        CHECK.yes("fail", y.fail(1, 1, 1));
+        CHECK.due("send", y.send(2, 3, 3), 1);
+        CHECK.groups(y, "1/1/1/9 2/2/1/8");
+        CHECK.due("pass", y.pass(1), 2);
+        CHECK.got(y, 0, "1/1 2/2");
     }
 
     private static void releasedForBeingDue() {

@@ -368,15 +368,24 @@ public final class StepBoundsTest {
         CHECK.says("the first one that throws ends the step");
         for (int failing = 0; failing <= 3; failing++) {
             Engine x = CHECK.engine("r!0");
-            for (int d = failing; d <= 3; d++) {
-                CHECK.yes("fail", x.fail(d, 1, 1));
-            }
+            CHECK.yes("fail", x.fail(failing, 1, 1));
             CHECK.due("send", x.send(0, 3, 15), 6);
             for (int d = 0; d <= 3; d++) {
-                CHECK.due("delivered before the throw", x.delivered(d), d < failing ? 1 : 0);
+                CHECK.due("delivered to " + d, x.delivered(d), d < failing ? 1 : 0);
             }
-            CHECK.due("send to those before the one that still throws", x.send(0, 3, (2 << failing) - 1), 1);
-            CHECK.due("delivered", x.delivered(failing), failing == 0 ? 2 : 1);
+            // Those behind the one that throws are not asked, so that each send takes one failure away.
+            Engine y = CHECK.engine("r");
+            for (int d = failing; d <= 3; d++) {
+                CHECK.yes("fail", y.fail(d, 1, 1));
+            }
+            for (int d = failing; d <= 3; d++) {
+                CHECK.due("send", y.send(0, 3, 15), 6);
+                CHECK.due("delivered to " + d, y.delivered(d), 0);
+            }
+            CHECK.due("send with no failure left", y.send(0, 3, 15), 1);
+            for (int d = 0; d <= 3; d++) {
+                CHECK.due("delivered to " + d, y.delivered(d), d < failing ? 5 - failing : 4 - d);
+            }
         }
     }
 

@@ -43,6 +43,7 @@ public final class TextBoundsTest {
         readAnswers();
         readLeastRoute();
         readEmptiesTheFullest();
+        readKeepsTheRest();
         readOfErrorChangesNothing();
         CHECK.end();
     }
@@ -602,10 +603,11 @@ public final class TextBoundsTest {
     private static void readEmptiesTheFullest() {
         CHECK.says("the queue is emptied, and all groups, and what steps hold and keep, are gone (they have no further outcome)");
         Engine x = fullest();
+        CHECK.due("pass", x.pass(4), 0);
         CHECK.due("read()", x.read(), 0);
-        CHECK.counts(x, "14 8 0 6 0 0 0 0 0 0 0 0 0");
+        CHECK.counts(x, "14 8 0 6 0 0 0 0 4 0 0 0 0");
         CHECK.due("work", x.work(), -1);
-        CHECK.due("pass", x.pass(9), 0);
+        CHECK.due("pass", x.pass(5), 0);
         CHECK.due("group", x.group(0, 0), 0);
         for (int key = 5; key <= 8; key++) {
             CHECK.due("send of a key that was kept", x.send(0, 40 + key, key), 1);
@@ -625,6 +627,33 @@ public final class TextBoundsTest {
         CHECK.due("work", x.work(), 3);
         CHECK.groups(x, "4/54/1/18 6/56/1/18");
         CHECK.got(x, 1, "100/5");
+    }
+
+    private static void readKeepsTheRest() {
+        CHECK.says("answers 0, and from now on these routes run");
+        Engine x = CHECK.engine("!0", "!1");
+        for (int i = 0; i < 4; i++) {
+            CHECK.yes("clause", x.clause(1, 1, 7, true, false));
+        }
+        CHECK.due("send", x.send(0, 5, 6), 1);
+        for (int d = 0; d <= 3; d++) {
+            CHECK.yes("fail", x.fail(d, 9, 3));
+        }
+        CHECK.write(x, "!1", "!0", "!3", "!2");
+        CHECK.due("read()", x.read(), 0);
+        CHECK.got(x, 0, "5/6");
+        CHECK.no("clause as the fifth", x.clause(1, 0, 0, true, false));
+        for (int r = 0; r <= 3; r++) {
+            for (int failures = 9; failures >= 2; failures -= 2) {
+                CHECK.due("send with failures left", x.send(r, r, 6), 5);
+            }
+            CHECK.due("send whose redelivery arrives", x.send(r, r, 6), 1);
+        }
+        CHECK.counts(x, "21 5 0 0 0 16 0 0 140 0 0 0 20");
+        CHECK.got(x, 0, "5/6 1/6");
+        CHECK.got(x, 1, "0/6");
+        CHECK.got(x, 2, "3/6");
+        CHECK.got(x, 3, "2/6");
     }
 
     private static void readOfErrorChangesNothing() {
